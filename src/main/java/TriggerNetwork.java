@@ -704,7 +704,7 @@ public final class TriggerNetwork {
         static final int NINTH_STATEMENT = 4;
 
         private static final int[] ITEMS = {2, 5, 1, 2, 2, 1, 1, 2, 1};
-        private static final int[] MOST = {MOST_STATIONS, 1, 1, 1, 1, 1, 1, MOST_RUNGS, 1};
+        private static final int[] MOST = {8, 1, 1, 1, 1, 1, 1, 8, 1};
         /** A row of MOST_ITEMS for each sort; lowest() and highest() know the bounds that depend on the text. */
         private static final int[] LOWEST = {
             0, 0, 0, 0, 0,

@@ -179,6 +179,8 @@ public final class EventTest {
         due.same("event", 0, x.pick(2, 3));
         due.same("picks", 3, x.event(0, 1));
         due.same("declared then still", 4, x.event(0, 2));
+        due.same("its first pick", 0, x.eventPick(0, 0));
+        due.same("its last pick", 2, x.eventPick(0, 2));
     }
 
     private static void joinsLowest() {
@@ -222,6 +224,9 @@ public final class EventTest {
         z.pass(2);
         shake(z, 0, 5);
         due.same("a group of one", 1, z.size(5));
+        due.same("its origin", 3, z.event(0, 4));
+        due.same("its misfit", 0, z.event(0, 5));
+        due.same("the misfit of any node", 0, z.misfit(24, 0));
     }
 
     /** Picks 0 and 1 do not fit to each other; the new one fits to both, and takes pick 0. */
@@ -363,6 +368,9 @@ public final class EventTest {
         due.same("misfit", 0, x.event(0, 5));
         due.same("at 0,0: delays 92, 23 and -16", 118, x.misfit(0, 0));
         due.same("description", "event 0 at 40,60 with 3 votes", Net.described(x, 0));
+        x.mute(1);
+        due.same("too few", 1, x.event(0, 0));
+        x.undo();
         due.noIndex("no node", () -> x.misfit(20, 0));
         due.noIndex("no node", () -> x.misfit(-1, 0));
         due.noIndex("no event", () -> x.misfit(0, 1));

@@ -132,6 +132,7 @@ public final class TextTest {
         x.pass(1);
         due.same("off 150", 142, x.station(0, 5));
         due.same("triggered no more", 0, x.triggered());
+        due.same("a pick alone is no event", 0, x.size(4));
         x.setLevel(1, 9);
         x.setLevel(2, 9);
         due.same("two picks", 2, x.pass(3));
@@ -139,7 +140,15 @@ public final class TextTest {
         due.same("times 15 and 23", 23, x.pick(1, 1));
         due.same("votes 3", 1, x.size(4));
         due.same("all of them", 3, x.event(0, 1));
-        due.same("slack 2: 23 and 11 fit", true, x.fits(0, 2));
+        due.same("8 apart", true, x.fits(0, 2));
+        TriggerNetwork y = Net.of("station 0 0;");
+        y.pass(12);
+        y.setLevel(0, 1);
+        y.pass(8);
+        due.same("off 150", 150, y.station(0, 5));
+        due.same("150 is not below", 1, y.triggered());
+        y.pass(1);
+        due.same("133 is", 0, y.triggered());
     }
 
     private static void bad(String text, int code, int position) {
@@ -294,6 +303,12 @@ public final class TextTest {
         x.pass(3);
         due.same("S", 1, x.station(0, 3));
         due.same("L", 3, x.station(0, 4));
+        due.same("parse", 0, Net.feed(x, "rung 1 1;"));
+        due.same("nothing of two networks before", 25, x.size(1));
+        due.same("stations", 0, x.size(0));
+        due.same("parse", 0, Net.feed(x, ""));
+        due.same("parse", 0, Net.feed(x, ""));
+        due.same("rungs", 0, x.size(2));
     }
 
     private static void sizes() {

@@ -8,6 +8,8 @@ public final class UndoTest {
         undoesTen();
         undoesAll();
         samplesComeBack();
+        latestPickComesBack();
+        picksAndEventsComeBack();
         snapshots();
         snapshotHoldsAll();
         slots();
@@ -102,6 +104,43 @@ public final class UndoTest {
         x.pass(2);
         due.same("S", 6, x.station(0, 3));
         due.same("L", 15, x.station(0, 4));
+    }
+
+    private static void latestPickComesBack() {
+        TriggerNetwork x = withEvent();
+        x.setLevel(0, 0);
+        x.pass(3);
+        x.setLevel(0, 9);
+        due.same("a second pick", 1, x.pass(1));
+        for (int k = 0; k < 4; k++) {
+            x.undo();
+        }
+        x.setLevel(0, 40);
+        x.pass(1);
+        due.same("the first one is the latest again", 40, x.pick(0, 2));
+    }
+
+    private static void picksAndEventsComeBack() {
+        TriggerNetwork x = withEvent();
+        x.saveSnapshot(0);
+        x.undo();
+        x.undo();
+        x.pass(4);
+        x.setLevel(1, 900);
+        x.pass(1);
+        due.same("station", 1, x.pick(0, 0));
+        due.same("declared", 7, x.event(0, 2));
+        x.retract(0);
+        x.mute(1);
+        due.same("tick", 3, x.restoreSnapshot(0));
+        due.same("station", 0, x.pick(0, 0));
+        due.same("time", 3, x.pick(0, 1));
+        due.same("peak", 5, x.pick(0, 2));
+        due.same("event", 0, x.pick(0, 3));
+        due.same("removed", 0, x.pick(0, 4));
+        due.same("retracted", 0, x.event(0, 0));
+        due.same("declared", 3, x.event(0, 2));
+        due.same("origin", 3, x.event(0, 4));
     }
 
     private static void snapshots() {
