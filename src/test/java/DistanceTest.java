@@ -32,6 +32,9 @@ public final class DistanceTest {
             due.same("node " + node, want[node][0], x.travel(node, 0));
             due.same("node " + node, want[node][1], x.travel(node, 1));
         }
+        TriggerNetwork y = Net.of("station 0 0;grid 0 0 1 3 10;speed 10;");
+        due.same("one column", 10, y.travel(1, 0));
+        due.same("one column", 20, y.travel(2, 0));
         due.noIndex("no node", () -> x.travel(6, 0));
         due.noIndex("no node", () -> x.travel(-1, 0));
         due.noIndex("no station", () -> x.travel(0, 2));

@@ -166,6 +166,8 @@ public final class TextTest {
         bad("decay 1.0;", 1, 7);
         bad("decays 1;", 1, 0);
         bad("deca 1;", 1, 0);
+        bad("secay 1;", 1, 0);
+        bad("decax 1;", 1, 0);
         bad("stationss 1 1;", 1, 0);
         bad("stationsss 1 1;", 1, 0);
         bad("decay 00001;", 1, 6);
