@@ -1,3 +1,7 @@
+import java.lang.reflect.InvocationTargetException;
+import java.lang.reflect.Method;
+import java.util.Map;
+import java.util.TreeMap;
 import java.util.function.LongSupplier;
 
 /** Compares answers with those that are due, and ends the program with 1 if one was not. */
@@ -47,8 +51,40 @@ final class Due {
         thrown(what, IllegalStateException.class, call);
     }
 
+    /** Runs each method whose name begins with promise, and finishes. One that throws spoils no other. */
+    void runPromises(Class<?> tests) {
+        Map<String, Method> methods = new TreeMap<>();
+        for (Method method : tests.getDeclaredMethods()) {
+            if (method.getName().startsWith("promise")) {
+                methods.put(method.getName(), method);
+            }
+        }
+        same("there are tests in " + tests.getName(), true, methods.size() > 0);
+        for (Method method : methods.values()) {
+            run(method);
+        }
+        finish(tests.getName() + ": " + methods.size() + " tests");
+    }
+
+    private void run(Method method) {
+        int before = compared;
+        try {
+            method.invoke(null);
+        } catch (InvocationTargetException e) {
+            complain(method.getName(), "nothing thrown", String.valueOf(e.getCause()));
+        } catch (IllegalAccessException e) {
+            complain(method.getName(), "a test that can be run", e.toString());
+        }
+        if (compared == before) {
+            complain(method.getName(), "an answer compared", "none");
+        }
+    }
+
     void finish() {
-        String name = new Throwable().getStackTrace()[1].getClassName();
+        finish(new Throwable().getStackTrace()[1].getClassName());
+    }
+
+    private void finish(String name) {
         System.out.println(name + ": " + compared + " answers compared, " + wrong + " wrong");
         if (wrong > 0) {
             System.exit(1);
@@ -61,7 +97,7 @@ final class Due {
             String where = "";
             for (StackTraceElement frame : new Throwable().getStackTrace()) {
                 if (!frame.getClassName().equals("Due")) {
-                    where = frame.getFileName() + ":" + frame.getLineNumber();
+                    where = frame.getFileName() + ":" + frame.getLineNumber() + " " + frame.getMethodName();
                     break;
                 }
             }

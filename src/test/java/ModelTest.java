@@ -27,9 +27,9 @@ public final class ModelTest {
             ModelTest test = new ModelTest(due, seed);
             test.run();
             for (int what = 3; what <= 5; what++) {
-                most[what - 3] = Math.max(most[what - 3], test.network.size(what));
+                most[what - 3] = Math.max(most[what - 3], test.size(what));
             }
-            full += test.network.size(3) == 60 ? 1 : 0;
+            full += test.size(3) == 60 ? 1 : 0;
         }
         due.same("the runs fill the picks", 60, most[0]);
         due.same("the runs fill the events", 20, most[1]);
@@ -70,8 +70,13 @@ public final class ModelTest {
         return below(12) == 0 ? new int[] {-1, Integer.MIN_VALUE, Integer.MAX_VALUE, 8, 60, 144}[below(6)] : below(usual);
     }
 
+    /** Asks the model, as an object of the class is good for 512 calls alone. */
+    private int size(int what) {
+        return (int) model.call("size", what);
+    }
+
     private int stations() {
-        return Math.max(1, network.size(0));
+        return Math.max(1, size(0));
     }
 
     private int level() {
@@ -89,8 +94,8 @@ public final class ModelTest {
         }
         look();
         same("pass", 1 + below(3));
-        for (int station = 0; station < network.size(0); station++) {
-            if (network.station(station, 2) > 2) {
+        for (int station = 0; station < size(0); station++) {
+            if (model.call("station", station, 2) > 2) {
                 same("setLevel", station, below(3));
             }
         }
@@ -105,7 +110,7 @@ public final class ModelTest {
         switch (below(24)) {
             case 0 -> same("mute", number(stations()));
             case 1, 2 -> same("unmute", number(stations()));
-            case 3 -> same("retract", number(Math.max(1, network.size(4))));
+            case 3 -> same("retract", number(Math.max(1, size(4))));
             case 4 -> same("undo");
             case 5 -> {
                 for (int k = below(14); k >= 0; k--) {
@@ -120,14 +125,14 @@ public final class ModelTest {
     }
 
     private void look() {
-        int picks = Math.max(1, network.size(3)) + below(2);
-        int events = Math.max(1, network.size(4)) + (below(8) == 0 ? 1 : 0);
+        int picks = Math.max(1, size(3)) + below(2);
+        int events = Math.max(1, size(4)) + (below(8) == 0 ? 1 : 0);
         switch (below(20)) {
             case 0 -> same("errorPosition");
             case 1 -> same("size", number(7));
             case 2 -> same("tick");
             case 3 -> same("between", number(stations()), number(stations()));
-            case 4 -> same("travel", number(network.size(1)), number(stations()));
+            case 4 -> same("travel", number(size(1)), number(stations()));
             case 5 -> same("ladder", new int[] {-1, 0, 9999, 99999, 100000, below(9999), below(100)}[below(7)]);
             case 6, 7 -> same("station", number(stations()), below(10) - 1);
             case 8 -> same("triggered");
@@ -135,7 +140,7 @@ public final class ModelTest {
             case 11 -> same("fits", number(picks), number(picks));
             case 12, 13 -> same("event", number(events), below(9) - 1);
             case 14 -> same("eventPick", number(events), number(9));
-            case 15 -> same("misfit", number(network.size(1)), number(events));
+            case 15 -> same("misfit", number(size(1)), number(events));
             case 16 -> describe(events);
             case 17 -> same("ratioAfter", number(stations()), level(), below(9) == 0 ? number(300) : below(30));
             case 18 -> same("eventsWithout", number(stations()), below(9) == 0 ? number(300) : below(30));

@@ -36,6 +36,44 @@ final class Net {
         return rows;
     }
 
+    /** Sets a level and lets a tick pass: a pick, if the station was quiet. */
+    static int shake(TriggerNetwork network, int station, int level) {
+        network.setLevel(station, level);
+        return network.pass(1);
+    }
+
+    /** Lets so many ticks pass, more than one call can. */
+    static void pass(TriggerNetwork network, int ticks) {
+        for (int left = ticks; left > 0; left -= 200) {
+            network.pass(Math.min(left, 200));
+        }
+    }
+
+    /** What the looking methods answer of all that changes can change, a few dozen calls. */
+    static String state(TriggerNetwork network) {
+        StringBuilder text = new StringBuilder("tick ").append(network.tick());
+        text.append(" triggered ").append(network.triggered());
+        for (int what = 0; what <= 5; what++) {
+            text.append(what == 0 ? " sizes " : ",").append(network.size(what));
+        }
+        for (int station = 0; station < network.size(0); station++) {
+            for (int what = 0; what <= 7; what++) {
+                text.append(what == 0 ? " station " : ",").append(network.station(station, what));
+            }
+        }
+        for (int pick = 0; pick < network.size(3); pick++) {
+            for (int what = 0; what <= 4; what++) {
+                text.append(what == 0 ? " pick " : ",").append(network.pick(pick, what));
+            }
+        }
+        for (int event = 0; event < network.size(4); event++) {
+            for (int what = 0; what <= 6; what++) {
+                text.append(what == 0 ? " event " : ",").append(network.event(event, what));
+            }
+        }
+        return text.toString();
+    }
+
     static String described(TriggerNetwork network, int event) {
         int length = network.describe(event);
         return described(network) + (described(network).length() == length ? "" : " (length " + length + ")");

@@ -2,7 +2,8 @@ import java.lang.management.ManagementFactory;
 
 /** An object's rows are made once: its calls make next to nothing. */
 public final class RoomTest {
-    private static final int CALLS = 500;
+    /** With those before them, fewer than the 512 for which an object is good. */
+    private static final int CALLS = 480;
     /** Generous for the counter's own coarseness, and far below one copy of a situation a call. */
     private static final long MOST_BYTES = CALLS * 400L;
 
