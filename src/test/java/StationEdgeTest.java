@@ -134,6 +134,22 @@ public final class StationEdgeTest {
         due.same("the 100th does not", 0, x.station(0, 4));
     }
 
+    /** With long 99, tick 99 is the last whose L has no sample before the first tick, for each station. */
+    static void promise10SamplesBeforeTheFirstTickOfLongSpans() {
+        TriggerNetwork x = Net.of("station 0 0;station 0 0;station 0 0;average 50 99;trigger 9999 0;");
+        for (int station = 0; station < 3; station++) {
+            x.setLevel(station, station + 7);
+        }
+        x.pass(49);
+        for (int tick = 49; tick <= 101; tick++) {
+            for (int station = 0; station < 3; station++) {
+                due.same("S in tick " + tick, Math.min(tick, 50) * (station + 7), x.station(station, 3));
+                due.same("L in tick " + tick, Math.min(tick, 99) * (station + 7), x.station(station, 4));
+            }
+            x.pass(1);
+        }
+    }
+
     /** "or 0 if L is 0" */
     static void promise10RatioIsZeroIfLIsZero() {
         TriggerNetwork x = Net.of("station 0 0;average 1 2;trigger 1 1;");

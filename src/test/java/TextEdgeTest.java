@@ -247,6 +247,22 @@ public final class TextEdgeTest {
         bad("speed 6 stationstation;", 1, 8);
     }
 
+    /** A word that differs from one of the grammar's by one letter is a token that it does not allow. */
+    static void promise03WordsByEachLetter() {
+        String[] texts = {
+            "station 1 1;", "grid 1 1 1 1 1;", "speed 1;", "average 1 1;", "trigger 1 1;", "votes 1;", "slack 1;",
+            "rung 1 1;", "decay 1;",
+        };
+        for (String text : texts) {
+            good(text);
+            for (int at = 0; at < text.indexOf(' '); at++) {
+                bad(text.substring(0, at) + 'q' + text.substring(at + 1), 1, 0);
+                bad(text.substring(0, at) + text.substring(at + 1), 1, 0);
+                bad(text.substring(0, at) + text.charAt(at) + text.substring(at), 1, 0);
+            }
+        }
+    }
+
     /** "a maximal run of digits, 1 to 4 digits ... A longer run ... is an invalid token." */
     static void promise03NumbersHaveFourDigitsAtMost() {
         good("speed 0006;");
@@ -477,6 +493,55 @@ public final class TextEdgeTest {
         due.same("L", 5, x.station(0, 4));
     }
 
+    /** Nothing is left of any text before, a faulty one or one before the last. */
+    static void promise03NothingIsLeftOfTextsBefore() {
+        String full = "station 7 7;".repeat(8) + "rung 1 1;rung 2 2;grid 9 9 2 2 9;speed 9;average 1 1;trigger 1 1;"
+                + "votes 1;slack 9;decay 9;";
+        TriggerNetwork x = new TriggerNetwork();
+        for (int k = 0; k < 4; k++) {
+            due.same("a faulty text", 1, Net.feed(x, full + "?"));
+            due.same("the empty text", 0, x.parse(0));
+            due.same("as if new", Net.state(new TriggerNetwork()), Net.state(x));
+            due.same("no rung", -1, x.ladder(99999));
+            if (k % 2 == 0) {
+                due.same("a full text", 0, Net.feed(x, full));
+                due.same("stations", 8, x.size(0));
+            }
+            due.same("two stations", 0, Net.feed(x, "station 0 0;station 59 0;"));
+            due.same("stations", 2, x.size(0));
+            due.same("speed 60: 590 / 60", 9, x.between(0, 1));
+            due.same("nodes", 25, x.size(1));
+        }
+    }
+
+    /** "A successful parse restores the initial situation": picks and events begin anew too. */
+    static void promise03PicksAndEventsBeginAnew() {
+        String text = "station 9 9;station 9 9;average 1 2;trigger 150 100;votes 1;slack 9;";
+        TriggerNetwork x = Net.of(text);
+        x.pass(2);
+        x.setLevel(0, 5);
+        x.setLevel(1, 5);
+        x.pass(1);
+        x.mute(0);
+        x.mute(1);
+        due.same("removed", 1, x.pick(0, 4));
+        due.same("retracted", 1, x.event(0, 0));
+        due.same("parse", 0, Net.feed(x, text));
+        x.pass(3);
+        x.setLevel(1, 7);
+        x.pass(1);
+        int[] pick = {1, 4, 7, 0, 0};
+        int[] event = {0, 1, 4};
+        for (int what = 0; what <= 4; what++) {
+            due.same("pick: " + what, pick[what], x.pick(0, what));
+        }
+        for (int what = 0; what <= 2; what++) {
+            due.same("event: " + what, event[what], x.event(0, what));
+        }
+        due.same("one pick", 1, x.size(3));
+        due.same("one event", 1, x.size(5));
+    }
+
     /** "clears the undo history and empties both slots" */
     static void promise03SuccessForgets() {
         TriggerNetwork x = Net.of("station 9 9;");
@@ -503,6 +568,8 @@ public final class TextEdgeTest {
         due.same("its next node in x", 3, x.travel(1, 0));
         due.same("its last node in y", 13, x.travel(20, 0));
         due.same("speed 60", 10, x.between(0, 1));
+        due.same("speed 60", 9, Net.of("station 0 0;station 59 0;").between(0, 1));
+        due.same("speed 60", 1, Net.of("station 0 0;station 6 0;").between(0, 1));
         due.same("no rungs", 0, x.size(2));
         due.same("no rungs", -1, x.ladder(99999));
         x.setLevel(0, 1);
@@ -513,31 +580,57 @@ public final class TextEdgeTest {
         due.same("long 12", 12, x.station(0, 4));
     }
 
-    /** "on and off 300 and 150, in percent", and long 12 */
-    static void promise03DefaultsOfTheTrigger() {
+    /** "short 1 to 50, long from short to 99 (... 3 and 12)": ready in tick 12. */
+    static void promise03DefaultsOfTheAverage() {
         TriggerNetwork x = Net.of("station 0 0;");
-        x.pass(11);
+        x.pass(10);
         x.setLevel(0, 1);
-        due.same("400 in tick 12: ready", 1, x.pass(1));
-        due.same("400", 400, x.station(0, 5));
+        due.same("tick 11 is too early", 0, x.pass(1));
+        due.same("ready in tick 12", 1, x.pass(1));
+        due.same("S", 2, x.station(0, 3));
+        x.pass(8);
+        due.same("S of 3", 3, x.station(0, 3));
+        due.same("L of 10", 10, x.station(0, 4));
+        x.pass(9);
+        due.same("L of 12", 12, x.station(0, 4));
+    }
+
+    /** "(300 and 150, in percent)": S and L of these samples give 400 * S / L. */
+    static void promise03DefaultsOfTheTrigger() {
+        due.same("400 * 299 / 400", 299, ratioAfter(101, 99, 0));
+        due.same("is below on", 0, ratioAfter(101, 99, 1));
+        due.same("400 * 300 / 400", 300, ratioAfter(100, 100, 0));
+        due.same("is on", 1, ratioAfter(100, 100, 1));
+        TriggerNetwork x = Net.of("station 0 0;");
+        x.pass(12);
+        Net.shake(x, 0, 251);
+        Net.shake(x, 0, 50);
+        Net.shake(x, 0, 50);
+        due.same("on", 1, x.triggered());
+        Net.shake(x, 0, 50);
+        due.same("400 * 150 / 401", 149, x.station(0, 5));
+        due.same("is below off", 0, x.triggered());
+        for (int k = 0; k < 8; k++) {
+            x.undo();
+        }
+        Net.shake(x, 0, 250);
+        Net.shake(x, 0, 50);
+        x.pass(2);
+        due.same("400 * 150 / 400", 150, x.station(0, 5));
+        due.same("is not", 1, x.triggered());
+    }
+
+    /** The ratio, or whether it makes a pick, after one sample in tick 8 and three in ticks 13 to 15. */
+    private static int ratioAfter(int early, int last, int what) {
+        TriggerNetwork x = Net.of("station 0 0;");
         x.pass(7);
-        due.same("3 * 1200 / 24", 150, x.station(0, 5));
-        due.same("not below off", 1, x.triggered());
-        x.pass(1);
-        due.same("3 * 1200 / 27", 133, x.station(0, 5));
-        due.same("below off", 0, x.triggered());
-        TriggerNetwork y = Net.of("station 0 0;");
-        y.setLevel(0, 1);
-        y.pass(12);
-        y.setLevel(0, 9);
-        y.pass(2);
-        due.same("19 * 1200 / 84 is below on", 0, y.triggered());
-        due.same("27 * 1200 / 108 is on", 1, y.pass(1));
-        due.same("ratio", 300, y.station(0, 5));
-        TriggerNetwork z = Net.of("station 0 0;");
-        z.pass(10);
-        z.setLevel(0, 1);
-        due.same("tick 11 is too early", 0, z.pass(1));
+        Net.shake(x, 0, early);
+        x.setLevel(0, 0);
+        x.pass(4);
+        Net.shake(x, 0, 100);
+        Net.shake(x, 0, 100);
+        int picks = Net.shake(x, 0, last);
+        return what == 0 ? x.station(0, 5) : picks;
     }
 
     /** "3" votes and "2" ticks of slack without a statement */

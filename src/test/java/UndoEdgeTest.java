@@ -161,6 +161,22 @@ public final class UndoEdgeTest {
         due.same("one change", 0, x.undo());
     }
 
+    /** The peak that grows is again that of the pick that was the latest then. */
+    static void promise27TheLatestPickThen() {
+        TriggerNetwork x = Net.of("station 0 0;average 1 2;trigger 150 100;votes 1;");
+        x.pass(2);
+        Net.shake(x, 0, 5);
+        x.setLevel(0, 0);
+        x.pass(2);
+        due.same("a second pick", 1, Net.shake(x, 0, 6));
+        for (int k = 0; k < 4; k++) {
+            x.undo();
+        }
+        due.same("one pick", 1, x.size(3));
+        Net.shake(x, 0, 70);
+        due.same("its peak", 70, x.pick(0, 2));
+    }
+
     static void promise27UndoPastTheLastTick() {
         TriggerNetwork x = new TriggerNetwork();
         Net.pass(x, 9999);
@@ -313,6 +329,31 @@ public final class UndoEdgeTest {
         due.same("samples", ratios[0], x.ratioAfter(0, 7, 1));
         due.same("samples", ratios[1], x.ratioAfter(1, 7, 1));
         due.same("samples", ratios[2], x.ratioAfter(2, 7, 2));
+    }
+
+    /** Picks and events of another history stood in the same places meanwhile. */
+    static void promise29PicksAndEventsOfAnotherHistory() {
+        TriggerNetwork x = Net.of("station 0 0;station 0 0;average 1 2;trigger 150 150;votes 1;slack 0;");
+        x.pass(2);
+        x.saveSnapshot(0);
+        Net.shake(x, 0, 5);
+        Net.shake(x, 0, 0);
+        x.pass(1);
+        Net.shake(x, 0, 6);
+        x.saveSnapshot(1);
+        String before = Net.state(x);
+        x.restoreSnapshot(0);
+        x.pass(9);
+        x.setLevel(0, 7);
+        Net.shake(x, 1, 7);
+        x.mute(1);
+        x.mute(0);
+        due.same("another history", 12, x.pick(0, 1));
+        x.restoreSnapshot(1);
+        due.same("state", before, Net.state(x));
+        Net.shake(x, 0, 8);
+        due.same("the latest pick is the second", 8, x.pick(1, 2));
+        due.same("not the first", 5, x.pick(0, 2));
     }
 
     /** "The undo history is cleared." */
