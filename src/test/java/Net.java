@@ -76,13 +76,16 @@ final class Net {
 
     static String described(TriggerNetwork network, int event) {
         int length = network.describe(event);
-        return described(network) + (described(network).length() == length ? "" : " (length " + length + ")");
+        String text = described(network);
+        return text.length() == length ? text : text + " (length " + length + ")";
     }
 
+    /** One call a byte, as an object is good for 512 calls alone. */
     static String described(TriggerNetwork network) {
         StringBuilder text = new StringBuilder();
-        for (int k = 0; network.describedByte(k) != TriggerNetwork.NONE; k++) {
-            text.append((char) network.describedByte(k));
+        for (int sign = network.describedByte(0); sign != TriggerNetwork.NONE; ) {
+            text.append((char) sign);
+            sign = network.describedByte(text.length());
         }
         return text.toString();
     }

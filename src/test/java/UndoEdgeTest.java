@@ -1,3 +1,5 @@
+import java.util.function.ToIntFunction;
+
 /** Promises 27 to 29: a test for each sentence of the document that names a boundary case. */
 public final class UndoEdgeTest {
     private static final int LEAST = Integer.MIN_VALUE;
@@ -102,34 +104,45 @@ public final class UndoEdgeTest {
         due.same("undo is no change", -1, x.undo());
     }
 
-    /** "The methods from setLevel to retract are changes if they succeed": each comes back whole. */
-    static void promise27EachChange() {
+    /** "The methods from setLevel to retract are changes if they succeed": each is taken back whole. */
+    static void promise27UndoesSetLevel() {
+        undoes(x -> x.setLevel(0, 9999));
+    }
+
+    static void promise27UndoesPass() {
+        undoes(x -> x.pass(200));
+        undoes(x -> x.pass(1));
+    }
+
+    static void promise27UndoesMute() {
+        undoes(x -> x.mute(0));
+        undoes(x -> x.mute(2));
+    }
+
+    static void promise27UndoesUnmute() {
+        TriggerNetwork x = busy();
+        x.mute(2);
+        String before = Net.state(x);
+        x.unmute(2);
+        x.undo();
+        due.same("state", before, Net.state(x));
+    }
+
+    static void promise27UndoesRetract() {
+        undoes(x -> x.retract(0));
+        undoes(x -> x.retract(1));
+    }
+
+    private static void undoes(ToIntFunction<TriggerNetwork> change) {
         TriggerNetwork x = busy();
         due.same("two events", 2, x.size(4));
         due.same("two stations", 2, x.triggered());
         String before = Net.state(x);
-        x.setLevel(0, 9999);
-        x.undo();
-        due.same("setLevel", before, Net.state(x));
-        x.pass(200);
-        x.undo();
-        due.same("pass", before, Net.state(x));
-        x.mute(0);
-        x.undo();
-        due.same("mute", before, Net.state(x));
-        x.mute(2);
-        String muted = Net.state(x);
-        x.unmute(2);
-        x.undo();
-        due.same("unmute", muted, Net.state(x));
-        x.undo();
-        x.retract(1);
-        x.undo();
-        due.same("retract", before, Net.state(x));
         int next = x.ratioAfter(0, 7, 1);
-        x.setLevel(0, 7);
-        x.pass(1);
-        due.same("the samples are as they were", next, x.station(0, 5));
+        change.applyAsInt(x);
+        x.undo();
+        due.same("state", before, Net.state(x));
+        due.same("samples", next, x.ratioAfter(0, 7, 1));
     }
 
     /** No other method is a change: not the looking ones, nor append, parse errors and snapshots. */
