@@ -542,6 +542,22 @@ public final class TextEdgeTest {
         due.same("one event", 1, x.size(5));
     }
 
+    /** No pick of a text before votes: station 1 made the second one, in tick 5, of no event. */
+    static void promise03PicksOfTextsBeforeDoNotVote() {
+        String text = "station 9 9;station 9 9;average 1 2;trigger 150 100;votes 2;slack 0;";
+        TriggerNetwork x = Net.of(text);
+        x.pass(2);
+        Net.shake(x, 0, 5);
+        x.pass(1);
+        Net.shake(x, 1, 5);
+        due.same("no event", 0, x.size(4));
+        due.same("parse", 0, Net.feed(x, text));
+        x.pass(4);
+        due.same("a pick in tick 5", 1, Net.shake(x, 0, 5));
+        due.same("it is alone", 0, x.size(4));
+        due.same("of none", -1, x.pick(0, 3));
+    }
+
     /** "clears the undo history and empties both slots" */
     static void promise03SuccessForgets() {
         TriggerNetwork x = Net.of("station 9 9;");
